@@ -37,7 +37,6 @@ public final class TriggerMatches {
     private int limit = 3;
 
     public TriggerMatches() {
-        standing.settle(now.terms);
     }
 
     // ---- terms
@@ -411,12 +410,15 @@ public final class TriggerMatches {
         }
     }
 
-    /** What stands among CLASSES: made from TERMS whenever these or their CLASSES change. */
+    /** What stands among CLASSES: settled whenever TERMS or their CLASSES change. */
     private static final class Standing {
         static final int KEYS = F + 2 * MOST_TERMS + MOST_TERMS * MOST_TERMS;
 
         /** By key: the CLASS of the TERMS of a SIGN with PARTS in two CLASSES, or NONE. */
         final int[] place = new int[KEYS];
+        /** The keys whose place is told: it is far quicker to empty these than all. */
+        private final int[] used = new int[MOST_TERMS];
+        private int usedSize = 0;
         /** By SIGN: the CLASSES, as bits, that the first PARTS of its TERMS are in. */
         private final long[] firsts = new long[X];
         /** Those of the second PARTS of h. */
@@ -426,6 +428,10 @@ public final class TriggerMatches {
         /** By CLASS of the first PART of h: the CLASSES of the second ones that go with it. */
         private final long[] secondsWith = new long[MOST_TERMS];
         private final int[] fewest = new int[MOST_TERMS];
+
+        Standing() {
+            Arrays.fill(place, NONE);
+        }
 
         static int keyOf(int s, int p, int q) {
             if (s < 0 || s > H) {
@@ -446,18 +452,17 @@ public final class TriggerMatches {
             return F + (2 + p) * MOST_TERMS + q;
         }
 
-        /** Makes all TERMS of a SIGN with PARTS that are ALIKE each ALIKE, and marks what stands. */
+        /** Makes all TERMS of a SIGN with PARTS that are ALIKE each ALIKE, and tells the places. */
         void settle(Terms terms) {
             boolean more = true;
             // a sweep that unites leaves a CLASS less, so there are never more of them than TERMS
             for (int sweeps = 0; more && sweeps <= MOST_TERMS; sweeps++) {
                 more = sweep(terms);
             }
-            markParts(terms);
         }
 
         private boolean sweep(Terms terms) {
-            Arrays.fill(place, NONE);
+            emptyPlaces();
             boolean united = false;
             for (int t = 0; t < terms.size; t++) {
                 int key = keyOf(terms.sign[t], terms.homeOf(terms.one[t]), terms.homeOf(terms.other[t]));
@@ -465,7 +470,7 @@ public final class TriggerMatches {
                     continue;
                 }
                 if (place[key] == NONE) {
-                    place[key] = terms.home[t];
+                    tellPlace(key, terms.home[t]);
                 } else if (terms.unite(place[key], t)) {
                     united = true;
                 }
@@ -473,7 +478,23 @@ public final class TriggerMatches {
             return united;
         }
 
-        private void markParts(Terms terms) {
+        private void emptyPlaces() {
+            for (int i = 0; i < usedSize; i++) {
+                place[used[i]] = NONE;
+            }
+            usedSize = 0;
+        }
+
+        private void tellPlace(int key, int c) {
+            if (usedSize < MOST_TERMS) {
+                place[key] = c;
+                used[usedSize] = key;
+                usedSize++;
+            }
+        }
+
+        /** Marks which CLASSES are PARTS, for a look at them. */
+        void markParts(Terms terms) {
             Arrays.fill(firsts, 0L);
             Arrays.fill(firstsWith, 0L);
             Arrays.fill(secondsWith, 0L);
@@ -786,6 +807,7 @@ public final class TriggerMatches {
             found.size = 0;
             foundRule = r;
             markGenerations();
+            standing.markParts(now.terms);
             Pattern pattern = now.ruleAt(r);
             if (stands(pattern, 0)) {
                 choose(pattern, pattern.lettersIn(0, pattern.left), 0);

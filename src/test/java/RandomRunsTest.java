@@ -46,9 +46,30 @@ public final class RandomRunsTest {
     }
 
     private void go() {
+        if (flavour == 3) {
+            crowd();
+        }
         while (!wrong && calls.size() < CALLS) {
             step();
         }
+    }
+
+    /** So many first parts in one class that a rule of two or three letters has more findings than count. */
+    private void crowd() {
+        int many = 8 + random.nextInt(12);
+        due("term(0,0,0)", x.term(0, 0, 0), y.term(0, 0, 0));
+        for (int i = 1; i < many; i++) {
+            due("term(5," + (i - 1) + ",0)", x.term(5, i - 1, 0), y.term(5, i - 1, 0));
+        }
+        for (int i = 0; i < many; i++) {
+            due("term(4," + i + ",0)", x.term(4, i, 0), y.term(4, i, 0));
+            due("alike(" + many + "," + (many + i) + ")", x.alike(many, many + i), y.alike(many, many + i));
+        }
+        due("term(6," + many + "," + many + ")", x.term(6, many, many), y.term(6, many, many));
+        String[] rules = {"h(f(x),f(y))>h(f(y),x);", "h(f(z),f(x))>z;", "h(f(x),f(y))>f(x);f(x)>g(x);",
+            "h(f(z),f(y))>h(z,z);h(f(y),f(y))>g(g(y));", "h(f(x),f(y))>a;g(z)>f(z);"};
+        type(rules[random.nextInt(rules.length)]);
+        due("reads['" + y.text + "']", x.reads(), y.reads());
     }
 
     private void step() {
@@ -95,7 +116,7 @@ public final class RandomRunsTest {
                 break;
             case 4:
                 n = anyRule();
-                if (random.nextInt(4) == 0) {
+                if (random.nextInt(2) == 0) {
                     due("drop(" + n + ")", x.drop(n), y.drop(n));
                 }
                 break;
@@ -157,7 +178,7 @@ public final class RandomRunsTest {
                 due("rule(" + r + "," + n + ")", x.rule(r, n), y.rule(r, n));
                 break;
             case 5:
-                int k = random.nextInt(30) == 0 ? random.nextInt(260) - 5 : anyOf(8);
+                int k = random.nextInt(30) == 0 ? random.nextInt(260) - 5 : anyOf(flavour == 3 ? 205 : 8);
                 n = anyOf(4);
                 due("finding(" + r + "," + k + "," + n + ")", x.finding(r, k, n), y.finding(r, k, n));
                 break;
@@ -191,6 +212,11 @@ public final class RandomRunsTest {
         if (random.nextInt(4) == 0) {
             spoil(text);
         }
+        type(text.toString());
+        due("reads['" + y.text + "']", x.reads(), y.reads());
+    }
+
+    private void type(String text) {
         for (int i = 0; i < text.length(); i++) {
             int c = text.charAt(i);
             int got = x.type(c);
@@ -199,11 +225,11 @@ public final class RandomRunsTest {
                 due("type(" + c + ")", got, want);
             }
         }
-        due("reads['" + y.text + "']", x.reads(), y.reads());
     }
 
     private void sentence(StringBuilder text) {
-        int kind = random.nextInt(10);
+        boolean rulesAreFull = y.world.rules.size() > 5;
+        int kind = random.nextInt(rulesAreFull && random.nextInt(9) > 0 ? 6 : 10);
         int depth = 1 + random.nextInt(3);
         if (kind < 4) {
             write(text, depth, "abcd");
