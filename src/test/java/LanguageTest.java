@@ -66,7 +66,7 @@ public final class LanguageTest {
 
     private static void nestedClasses() {
         Class<?>[] all = TriggerMatches.class.getDeclaredClasses();
-        CHECK.that("classes: " + (all.length + 1), all.length + 1 <= 13);
+        CHECK.that("classes: " + (all.length + 1), all.length + 1 <= 12);
         for (Class<?> c : all) {
             CHECK.that(c + " is static", Modifier.isStatic(c.getModifiers()));
             int fields = 0;

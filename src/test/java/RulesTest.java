@@ -133,6 +133,13 @@ public final class RulesTest {
     }
 
     private static void dropMovesUp() {
+        TriggerMatches y = Calls.with("f(x)>x;g(x)>x;g(g(a));");
+        due("none of the first one", y.rule(0, 3), 0);
+        y.drop(0);
+        due("the one behind it has two", y.rule(0, 3), 2);
+        y.back();
+        due("back: none of the first one", y.rule(0, 3), 0);
+
         TriggerMatches x = Calls.with("a>b;f(x)>a;g(y)>a;");
         due("rule 3", x.drop(3), BAD);
         due("rule -1", x.drop(-1), BAD);
@@ -262,6 +269,13 @@ public final class RulesTest {
         due("by place, h(a,a)", comesAt(text, 3, 4), 6);
         due("by place, d", comesAt(text, 3, 5), 3);
         due("by place, c", comesAt(text, 3, 6), 2);
+        // as many rules as can be, each with a sign of its own at the right
+        String six = "d;d>a;d>b;d>c;d>f(d);d>g(d);d>h(d,d);";
+        for (int r = 0; r < 6; r++) {
+            int sign = r < 3 ? r : r + 1;
+            due("six rules, " + r, comesAt(six, 0, 1 + r), sign);
+            due("six rules from the last one, " + r, comesAt(six, 2, 6 - r), sign);
+        }
         generations();
     }
 

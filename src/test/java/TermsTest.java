@@ -114,6 +114,11 @@ public final class TermsTest {
         due("f(a) = a: all one", y.alike(1, 0), 3);
         due("one class", y.classes(), 1);
         due("a class is named by its least term", y.of(6, 4), 0);
+
+        TriggerMatches z = Calls.with("f(a);f(b);f(c)=a;f(d)=b;");
+        // a f(a) b f(b) c f(c) d f(d)
+        due("c = d, so f(c) = f(d), so a = b, so f(a) = f(b)", z.alike(4, 6), 3);
+        due("what follows for earlier terms", z.same(1, 3), 1);
     }
 
     private static void alikeRefused() {
@@ -216,6 +221,9 @@ public final class TermsTest {
     }
 
     private static void aboutFewestSigns() {
+        TriggerMatches y = Calls.with("g(f(a));f(a)=b;");
+        due("g(b) is not there, but a text for g(f(a))", y.about(2, 2), 2);
+
         TriggerMatches x = new TriggerMatches();
         x.term(0, 0, 0);
         for (int t = 1; t < 50; t++) {

@@ -292,6 +292,26 @@ public final class TextsTest {
         CHECK.due("nor refusals", Calls.refusals(x), 0, 2, 0);
         due("a new state behind it", x.term(2, 0, 0), 0);
         due("states", x.told(8), 1);
+        backBringsAllOfThem();
+    }
+
+    /** Signs, parts and rules come back where others have been meanwhile. */
+    private static void backBringsAllOfThem() {
+        TriggerMatches x = Calls.with("a;b;h(a,b);f(x)>a;g(g(x))>b;");
+        long ahead = x.digest();
+        x.drop(0);
+        x.anew();
+        Calls.say(x, "c;d;h(d,c);g(c)=d;");
+        Calls.say(x, "h(x,y)>f(f(x));");
+        x.round();
+        Calls.put(x, "a;b;h(a,b);f(x)>a;g(g(x))>b;");
+        for (int left = 5; left > 0; left--) {
+            due("back", x.back(), left);
+        }
+        due("all as ahead", x.digest(), ahead);
+        CHECK.that("h(a,b)", Calls.written(x, 2).equals("h(a,b)"));
+        due("f(x) is rule 0 again", x.rule(0, 1), 1);
+        due("g(g(x)) is rule 1 again", x.rule(1, 1), 2);
     }
 
     private static void backAtMostEight() {
