@@ -52,4 +52,45 @@ final class Calls {
     static long[] refusals(TriggerMatches x) {
         return new long[] {x.told(0), x.told(1), x.told(2)};
     }
+
+    /** Of a TERM: SIGN, PARTS, GENERATION, CLASS. */
+    static long[] of(TriggerMatches x, int t) {
+        return new long[] {x.of(t, 0), x.of(t, 1), x.of(t, 2), x.of(t, 3), x.of(t, 4)};
+    }
+
+    /** A new object with a, f(a), f(f(a)) .., so many TERMS. */
+    static TriggerMatches chain(int terms) {
+        TriggerMatches x = new TriggerMatches();
+        for (int t = 0; t < terms; t++) {
+            x.term(t == 0 ? 0 : 4, t - 1, 0);
+        }
+        return x;
+    }
+
+    /** The TERM of a text without blanks, which comes if it is not there. */
+    static int term(TriggerMatches x, String text) {
+        if (text.length() == 1) {
+            return x.term("abcdfgh".indexOf(text), 0, 0);
+        }
+        String inside = text.substring(2, text.length() - 1);
+        char sign = text.charAt(0);
+        if (sign != 'h') {
+            return x.term(sign == 'f' ? 4 : 5, term(x, inside), 0);
+        }
+        int comma = outerComma(inside);
+        int one = term(x, inside.substring(0, comma));
+        return x.term(6, one, term(x, inside.substring(comma + 1)));
+    }
+
+    private static int outerComma(String inside) {
+        int depth = 0;
+        for (int i = 0; i < inside.length(); i++) {
+            char c = inside.charAt(i);
+            if (c == ',' && depth == 0) {
+                return i;
+            }
+            depth += c == '(' ? 1 : c == ')' ? -1 : 0;
+        }
+        throw new IllegalStateException("a test's own text is faulty: " + inside);
+    }
 }

@@ -1,6 +1,9 @@
 /** Compares answers with those that are due, and tells at the end how many were not. */
 final class Check {
     private final String name;
+    /** The sentence of the document that the next answers are due by. */
+    private String sentence = "";
+    private int sentences = 0;
     private int asked = 0;
     private int wrong = 0;
 
@@ -8,11 +11,17 @@ final class Check {
         this.name = name;
     }
 
+    /** The answers from here on are due by this sentence: where it stands, and its words. */
+    void says(String where, String words) {
+        sentence = " [" + where + ": " + words + "]";
+        sentences++;
+    }
+
     void due(String call, long got, long want) {
         asked++;
         if (got != want) {
             wrong++;
-            System.out.println(name + ": " + call + " answered " + got + ", due is " + want);
+            System.out.println(name + sentence + ": " + call + " answered " + got + ", due is " + want);
         }
     }
 
@@ -29,7 +38,8 @@ final class Check {
     }
 
     void end() {
-        System.out.println(name + ": " + (asked - wrong) + " of " + asked + " answers are as due");
+        String by = sentences > 0 ? ", by " + sentences + " sentences" : "";
+        System.out.println(name + ": " + (asked - wrong) + " of " + asked + " answers are as due" + by);
         if (wrong > 0) {
             System.exit(1);
         }

@@ -4,13 +4,15 @@ import java.util.Random;
 
 /** Runs of calls, made by fixed seeds, on the class and on the oracle: every answer must be the same. */
 public final class RandomRunsTest {
-    private static final int CALLS = 500;
+    /** An object is good for 512 calls; a step makes a dozen at most beside the bytes that it types. */
+    private static final int MOST_CALLS = 512, STEP = 12;
 
     private final Random random;
     private final TriggerMatches x = new TriggerMatches();
     private final Oracle y = new Oracle();
     private final List<String> calls = new ArrayList<>();
     private final int flavour;
+    private int made = 0;
     private boolean wrong = false;
 
     private RandomRunsTest(long seed) {
@@ -19,7 +21,7 @@ public final class RandomRunsTest {
     }
 
     public static void main(String[] args) {
-        int runs = args.length > 0 ? Integer.parseInt(args[0]) : 600;
+        int runs = args.length > 0 ? Integer.parseInt(args[0]) : 1500;
         int from = args.length > 1 ? Integer.parseInt(args[1]) : 0;
         int wrongRuns = 0;
         for (int seed = from; seed < from + runs && wrongRuns < 3; seed++) {
@@ -37,6 +39,7 @@ public final class RandomRunsTest {
     }
 
     private boolean due(String call, long got, long want) {
+        made++;
         calls.add(call + "=" + got);
         if (got != want && !wrong) {
             wrong = true;
@@ -49,7 +52,7 @@ public final class RandomRunsTest {
         if (flavour == 3) {
             crowd();
         }
-        while (!wrong && calls.size() < CALLS) {
+        while (!wrong && made <= MOST_CALLS - STEP) {
             step();
         }
     }
@@ -212,7 +215,9 @@ public final class RandomRunsTest {
         if (random.nextInt(4) == 0) {
             spoil(text);
         }
-        type(text.toString());
+        if (made + text.length() <= MOST_CALLS - STEP) {
+            type(text.toString());
+        }
         due("reads['" + y.text + "']", x.reads(), y.reads());
     }
 
@@ -221,6 +226,7 @@ public final class RandomRunsTest {
             int c = text.charAt(i);
             int got = x.type(c);
             int want = y.type(c);
+            made++;
             if (got != want) {
                 due("type(" + c + ")", got, want);
             }
