@@ -9,6 +9,8 @@ public final class BoundsOfRoundsTest {
         doingPartsFirst();
         doingJustThese();
         doingLeastTerms();
+        doingEachLetter();
+        doingALetterAlone();
         generationOfLetters();
         generationOfPlace();
         generationLeastOfAClass();
@@ -33,6 +35,9 @@ public final class BoundsOfRoundsTest {
         orderTwo();
         orderThree();
         orderThreeAtOnePlace();
+        orderOfSixRules();
+        orderOfTheFirstPlaces();
+        orderOfTheLastPlaces();
         roundOfNone();
         roundChanges();
         roundLeavesAState();
@@ -78,6 +83,7 @@ public final class BoundsOfRoundsTest {
         CHECK.due("f(a)", Calls.of(x, 4), 4, 0, NONE, 1, 2);
         due("told(4)", x.told(4), 5);
         due("f(b) and g(b) are ALIKE by it", x.same(2, 3), 1);
+        CHECK.due("last", Calls.last(x), 1, 0, 0, 1, 1);
         due("round() again", x.round(), 0);
         due("told(4) yet", x.told(4), 5);
     }
@@ -87,6 +93,29 @@ public final class BoundsOfRoundsTest {
         TriggerMatches x = Calls.with("a;b;c;d;c=d;d=b;f(d);f(x)>g(x);");
         due("round()", x.round(), 1);
         due("g(b), not g(d)", x.of(5, 1), 1);
+    }
+
+    private static void doingEachLetter() {
+        CHECK.says("Terms", "CLASSES for LETTERS: x, y, z each for its own");
+        TriggerMatches x = Calls.with("h(a,h(b,c));h(x,h(y,z))>h(h(z,x),f(y));");
+        due("round()", x.round(), 1);
+        int last = x.told(4) - 1;
+        CHECK.that("h(h(c,a),f(b))", Calls.written(x, last).equals("h(h(c,a),f(b))"));
+        due("it is ALIKE h(a,h(b,c))", x.of(last, 4), 4);
+        TriggerMatches y = Calls.with("h(a,b);h(z,y)>h(y,z);");
+        due("round() without x", y.round(), 1);
+        CHECK.that("h(b,a)", Calls.written(y, 3).equals("h(b,a)"));
+    }
+
+    private static void doingALetterAlone() {
+        CHECK.says("Terms", "RIGHT comes as a TERM: a LETTER alone is there always");
+        for (String letter : new String[] {"x", "y", "z"}) {
+            TriggerMatches x = Calls.chain(50);
+            Calls.say(x, "f(" + letter + ")>" + letter + ";");
+            due("round()", x.round(), 1);
+            CHECK.due("last", Calls.last(x), 49, 0, 0, 0, 1);
+            due("classes()", x.classes(), 1);
+        }
     }
 
     /** a f(a) b g(b): b of GENERATION 1, so is g(b), which is alike f(a). */
@@ -133,9 +162,9 @@ public final class BoundsOfRoundsTest {
         Calls.say(x, "h(x,x)>c;f(x)>c;");
         due("f(a) of 0 and g(b) of 1 for x", x.finding(0, 0, 4), 1);
         due("at f(a) and g(b)", x.finding(1, 0, 4), 1);
-        x.alike(2, 0);
+        x.alike(2, x.term(3, 0, 0));
         Calls.say(x, "b>c;");
-        due("b with a", x.finding(2, 0, 4), 1);
+        due("b of 1 with d of 0, which came later", x.finding(2, 0, 4), 1);
     }
 
     private static void generationOfNothingElse() {
@@ -415,6 +444,45 @@ public final class BoundsOfRoundsTest {
         x.sets(0, 3);
         due("round()", x.round(), 4);
         CHECK.due("came", cameByH(x, 4), 0, 20, 2, 22);
+    }
+
+    private static void orderOfSixRules() {
+        CHECK.says("Terms", "THE ORDER: RULES 0 .. 5, from the last one back");
+        // by each RULE one TERM comes, of another SIGN
+        int[] signs = {0, 1, 2, 4, 5, 6};
+        for (int order = 0; order <= 3; order++) {
+            TriggerMatches x = Calls.with("d;d>a;d>b;d>c;d>f(d);d>g(d);d>h(d,d);");
+            x.sets(0, order);
+            due("round()", x.round(), 6);
+            for (int r = 0; r < 6; r++) {
+                due("by THE ORDER " + order + ", RULE " + r, x.of(order == 2 ? 6 - r : 1 + r, 0), signs[r]);
+            }
+        }
+    }
+
+    private static void orderOfTheFirstPlaces() {
+        CHECK.says("Terms", "THE ORDER: 3 by PLACE: 0 ahead of 1");
+        TriggerMatches x = Calls.with("a;b;c;c>f(c);b>f(b);a>f(a);");
+        x.sets(0, 3);
+        due("round()", x.round(), 3);
+        for (int place = 0; place < 3; place++) {
+            due("at PLACE " + place, x.of(3 + place, 1), place);
+        }
+    }
+
+    private static void orderOfTheLastPlaces() {
+        CHECK.says("Terms", "THE ORDER: 3 by PLACE: 48 ahead of 49");
+        TriggerMatches x = Calls.chain(48);
+        x.term(1, 0, 0);
+        x.term(5, 48, 0);
+        Calls.say(x, "g(x)>f(x);b>a;");
+        // g(b), 49, needs f(b), for which there is no room, or f(a), if b, 48, is ALIKE a by then
+        due("round() by THE ORDER 0", x.round(), 1);
+        CHECK.due("last by THE ORDER 0", Calls.last(x), 1, 0, 1, 0, 1);
+        x.back();
+        x.sets(0, 3);
+        due("round() by THE ORDER 3", x.round(), 2);
+        CHECK.due("last by THE ORDER 3", Calls.last(x), 2, 0, 0, 0, 2);
     }
 
     // ---- promise 13

@@ -25,6 +25,7 @@ public final class BoundsOfRulesTest {
         findingsLateOnesAmongThem();
         dropBad();
         dropThoseBehind();
+        dropFindings();
         dropOfSix();
         dropLeavesAState();
         setsBad();
@@ -332,6 +333,20 @@ public final class BoundsOfRulesTest {
             }
             due("rule(5, 1)", x.rule(5, 1), TriggerMatches.BAD);
         }
+    }
+
+    private static void dropFindings() {
+        CHECK.says("Promise 11", "those behind it are one nearer: so are their FINDINGS");
+        TriggerMatches x = Calls.with("f(x)>x;g(x)>x;g(g(a));");
+        due("rule(0, 3) of f(x)", x.rule(0, 3), 0);
+        due("drop(0)", x.drop(0), 1);
+        due("rule(0, 3) of g(x)", x.rule(0, 3), 2);
+        due("back()", x.back(), 1);
+        due("rule(0, 3) of f(x) again", x.rule(0, 3), 0);
+        x.finding(0, 0, 3);
+        due("drop(0) again", x.drop(0), 1);
+        CHECK.due("finding(0, 1, ..)", Calls.finding(x, 0, 1), 1, NONE, NONE, 2, 1);
+        due("round(): by g(x), not by f(x)", x.round(), 1);
     }
 
     private static void dropOfSix() {

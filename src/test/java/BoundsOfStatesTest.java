@@ -20,6 +20,8 @@ public final class BoundsOfStatesTest {
         statesOfTermsAndGenerations();
         statesOfClasses();
         statesOfRules();
+        statesOfAllTermsAndRules();
+        statesOfTheLastRule();
         statesOfNothingElse();
         statesFullAndRefused();
         statesFullAndFault();
@@ -227,6 +229,50 @@ public final class BoundsOfStatesTest {
         due("with none", x.rule(2, 3), 0);
         due("round() by f(x) > x", x.round(), 1);
         due("a, f(a) and f(f(a)) are one", x.classes(), 1);
+    }
+
+    /** 49 TERMS of the signs that are told, by f and h. */
+    private static void fill(TriggerMatches x, char a, char b) {
+        Calls.say(x, ("f(".repeat(36) + "A" + ")".repeat(36) + ";B;").replace('A', a).replace('B', b));
+        Calls.say(x, "f(f(f(f(f(h(A,B))))));h(B,A)=B;f(h(B,A));h(B,B);f(h(B,B));g(A);".replace('A', a).replace('B', b));
+    }
+
+    private static void statesOfAllTermsAndRules() {
+        CHECK.says("The block behind 2", "TERMS, CLASSES, RULES as ahead of it: all 50, all 6");
+        TriggerMatches x = new TriggerMatches();
+        fill(x, 'a', 'b');
+        Calls.say(x, "a>h(f(a),b);a>a;f(x)>a;g(x)>a;g(g(x))>b;h(x,h(y,z))>g(z);");
+        x.sets(0, 3);
+        x.round();
+        due("told(4)", x.told(4), 50);
+        CHECK.due("the last TERM", Calls.of(x, 49), 6, 1, 37, 1, 0);
+        x.clear();
+        long ahead = x.digest();
+        x.anew();
+        fill(x, 'd', 'c');
+        due("another one is the last TERM", x.term(5, 5, 0), 49);
+        CHECK.due("it", Calls.of(x, 49), 5, 5, NONE, 0, 49);
+        for (int left = 7; left >= 4; left--) {
+            due("back()", x.back(), left);
+        }
+        x.clear();
+        CHECK.that("TERMS are as ahead, CLASSES, and RULES as far as the digest tells", x.digest() == ahead);
+        CHECK.due("the last TERM again", Calls.of(x, 49), 6, 1, 37, 1, 0);
+    }
+
+    private static void statesOfTheLastRule() {
+        CHECK.says("The block behind 2", "RULES as ahead of it: the last one, too");
+        TriggerMatches x = Calls.with("a>a;b>b;c>c;f(x)>x;g(x)>x;h(x,h(y,z))>g(z);");
+        x.anew();
+        Calls.say(x, "a>a;".repeat(6));
+        due("the last one of the others", x.rule(5, 0), 0);
+        x.back();
+        x.back();
+        due("told(5)", x.told(5), 6);
+        due("LETTERS of the last RULE", x.rule(5, 0), 3);
+        due("SIGNS in LEFT of the last RULE", x.rule(5, 1), 2);
+        due("SIGNS in RIGHT of the last RULE", x.rule(5, 2), 1);
+        due("SIGNS in LEFT of the first RULE", x.rule(0, 1), 1);
     }
 
     private static void statesOfNothingElse() {

@@ -24,6 +24,8 @@ public final class BoundsOfTermsTest {
         alikeBad();
         alikeNoneFewer();
         alikeAllFewer();
+        alikeWhateverFollows();
+        alikeNothingElseFollows();
         alikeLeavesAState();
         anewOfNone();
         anewOfAll();
@@ -32,6 +34,7 @@ public final class BoundsOfTermsTest {
         ofParts();
         ofGeneration();
         ofClass();
+        ofTheLastTerm();
         sameBad();
         sameAnswers();
         classesFromNoneToAll();
@@ -288,6 +291,47 @@ public final class BoundsOfTermsTest {
         due("f^25(a) = a: f^26(a) = f(a), and so on", x.alike(0, 25), 25);
     }
 
+    /** p9 and q9 become ALIKE, so do f(p9) and f(q9), which are ALIKE p8 and q8, and so on down to those that came first. */
+    private static void alikeWhateverFollows() {
+        CHECK.says("Terms", "the same SIGN as the other one and PARTS ALIKE each, and whatever follows from that");
+        TriggerMatches x = Calls.with("a;b;c;");
+        int[] p = new int[9];
+        int[] q = new int[9];
+        int s = 2;
+        for (int i = 0; i < 9; i++) {
+            p[i] = x.term(6, 0, s);
+            q[i] = x.term(6, 1, s);
+            s = x.term(5, s, 0);
+        }
+        for (int i = 1; i < 9; i++) {
+            x.alike(x.term(4, p[i], 0), p[i - 1]);
+            x.alike(x.term(4, q[i], 0), q[i - 1]);
+        }
+        due("told(4)", x.told(4), 46);
+        due("classes()", x.classes(), 30);
+        due("same(p0, q0)", x.same(p[0], q[0]), 0);
+        due("alike(p8, q8)", x.alike(q[8], p[8]), 9);
+        for (int i = 0; i < 9; i++) {
+            due("same(p" + i + ", q" + i + ")", x.same(p[i], q[i]), 1);
+        }
+        due("same(a, b)", x.same(0, 1), 0);
+        due("same(p0, p1)", x.same(p[0], p[1]), 0);
+    }
+
+    private static void alikeNothingElseFollows() {
+        CHECK.says("Terms", "the same SIGN as the other one and PARTS ALIKE each: both, and in their places");
+        TriggerMatches x = Calls.with("f(a);f(b);g(b);h(a,c);h(b,d);h(c,a);h(c,b);");
+        // a f(a) b f(b) g(b) c h(a,c) d h(b,d) h(c,a) h(c,b)
+        due("alike(a, b)", x.alike(0, 2), 3);
+        due("f(a), f(b)", x.same(1, 3), 1);
+        due("f(a), g(b)", x.same(1, 4), 0);
+        due("h(a,c), h(b,d): the second PART is not", x.same(6, 8), 0);
+        due("h(c,a), h(c,b)", x.same(9, 10), 1);
+        due("h(a,c), h(c,a)", x.same(6, 9), 0);
+        due("alike(f(a), c) tells nothing of a", x.alike(1, 5), 1);
+        due("a, c", x.same(0, 5), 0);
+    }
+
     private static void alikeLeavesAState() {
         CHECK.says("Promise 3", "S");
         TriggerMatches x = Calls.with("f(a);f(b);");
@@ -392,6 +436,27 @@ public final class BoundsOfTermsTest {
         }
     }
 
+    private static void ofTheLastTerm() {
+        CHECK.says("Terms", "TERMS 0 .. 49: the last one is as good as any");
+        TriggerMatches x = Calls.chain(48);
+        x.term(1, 0, 0);
+        x.term(6, 48, 47);
+        CHECK.due("of(49, ..)", Calls.of(x, 49), 6, 48, 47, 0, 49);
+        due("same(49, 0)", x.same(49, 0), 0);
+        due("about(49, 0)", x.about(49, 0), 1);
+        due("about(49, 1)", x.about(49, 1), 0);
+        due("about(49, 2)", x.about(49, 2), 50);
+        due("about(49, 3)", x.about(49, 3), 0);
+        due("about(48, 3)", x.about(48, 3), 1);
+        due("writing(49, NONE)", x.writing(49, NONE), 5 + 3 * 47 + 1);
+        Calls.say(x, "h(x,y)>x;f(x)>x;");
+        CHECK.due("a FINDING at it", Calls.finding(x, 0, 0), 48, 47, NONE, 49, 1);
+        due("alike(49, 0)", x.alike(49, 0), 1);
+        due("about(49, 2) then", x.about(49, 2), 1);
+        due("round(): h(b,f(..)) with b, f(a) with a, and so on", x.round(), 2);
+        due("classes()", x.classes(), 1);
+    }
+
     // ---- promises 6 and 7
 
     private static void sameBad() {
@@ -466,6 +531,10 @@ public final class BoundsOfTermsTest {
         due("its CLASS 8", x.about(28, 1), 8);
         x.alike(27, 0);
         due("f(g^9(a)) with a", x.about(27, 1), 0);
+        TriggerMatches y = generationOne();
+        y.alike(y.term(3, 0, 0), 2);
+        due("b, of GENERATION 1, with d, which came later", y.about(2, 1), 0);
+        due("b itself", y.of(2, 3), 1);
     }
 
     /** The TERM of a chain of h(t,t), of 1 more than twice the SIGNS of t, and f(t), of 1 more, with so many SIGNS. */

@@ -35,6 +35,7 @@ public final class BoundsOfTextsTest {
         faultEndsTooEarly();
         faultFirstOne();
         nothingIsDone();
+        nothingIsLeftByAFault();
         nothingCounts();
         writingBad();
         writingHowMany();
@@ -468,6 +469,21 @@ public final class BoundsOfTextsTest {
         due("round(): the RULE is as it was", x.round(), 0);
         CHECK.due("last", Calls.last(x), 1, 0, 0, 0, 0);
         due("a TERM comes as the next one", x.term(3, 0, 0), 5);
+    }
+
+    private static void nothingIsLeftByAFault() {
+        CHECK.says("2 THE TEXT", "If there is one, nothing is done: the next TEXT is read as if there had been none");
+        String[] faulty = {"", "f(", "h(a,", "h(h(f(", "h(a", "a=", "a=f(", "h(x,y)>", "h(x,y)>h(x,", "x", "f(x)=", "a;b;f("};
+        for (String text : faulty) {
+            TriggerMatches x = new TriggerMatches();
+            fault(x, text, text.length() - (text.equals("f(x)=") ? 1 : 0));
+            due("a TERM behind '" + text + "'", Calls.say(x, "h(f(a),b);a=b;"), 2);
+            due("told(4)", x.told(4), 4);
+            fault(x, text, text.length() - (text.equals("f(x)=") ? 1 : 0));
+            due("a RULE behind '" + text + "'", Calls.say(x, "f(y)>y;"), 1);
+            due("told(5)", x.told(5), 1);
+            fault(x, "a>x;", 2);
+        }
     }
 
     private static void nothingCounts() {
