@@ -26,6 +26,7 @@ public final class BoundsOfTermsTest {
         alikeAllFewer();
         alikeWhateverFollows();
         alikeNothingElseFollows();
+        alikeNoneByThemselves();
         alikeLeavesAState();
         anewOfNone();
         anewOfAll();
@@ -330,6 +331,22 @@ public final class BoundsOfTermsTest {
         due("h(a,c), h(c,a)", x.same(6, 9), 0);
         due("alike(f(a), c) tells nothing of a", x.alike(1, 5), 1);
         due("a, c", x.same(0, 5), 0);
+    }
+
+    private static void alikeNoneByThemselves() {
+        CHECK.says("Terms", "TERMS are ALIKE, if: none of 50 is, if nothing was told");
+        for (int sign = 4; sign <= 5; sign++) {
+            TriggerMatches x = Calls.with("a;h(a,a);h(a,h(a,a));h(h(a,a),a);");
+            x.term(6, 0, 2);
+            x.term(6, 2, 0);
+            x.term(6, 1, 1);
+            for (int t = 6; t < 49; t++) {
+                x.term(sign, t, 0);
+            }
+            due("told(4)", x.told(4), 50);
+            due("classes()", x.classes(), 50);
+            due("alike(48, 0): nothing follows, as there is no TERM of this SIGN with a", x.alike(48, 0), 1);
+        }
     }
 
     private static void alikeLeavesAState() {
