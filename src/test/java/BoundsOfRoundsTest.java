@@ -35,6 +35,7 @@ public final class BoundsOfRoundsTest {
         orderTwo();
         orderThree();
         orderThreeAtOnePlace();
+        orderOfLetters();
         orderOfSixRules();
         orderOfTheFirstPlaces();
         orderOfTheLastPlaces();
@@ -44,6 +45,7 @@ public final class BoundsOfRoundsTest {
         roundOfTwelveHundred();
         roundsBad();
         roundsAtMost();
+        roundsByOrderAndLimit();
         roundsUntilNothingChanges();
         roundsLeaveOneState();
         lastBad();
@@ -446,6 +448,32 @@ public final class BoundsOfRoundsTest {
         CHECK.due("came", cameByH(x, 4), 0, 20, 2, 22);
     }
 
+    private static void orderOfLetters() {
+        CHECK.says("Terms", "THE ORDER: then as they come, by x's CLASS, then y's, then z's");
+        // a b c h(b,a) h(a,c) h(a,b): x's and y's CLASSES and PLACE go each another way
+        long[][] want = {{1, 2, 10}, {1, 2, 10}, {1, 2, 10}, {10, 2, 1}};
+        for (int order = 0; order <= 3; order++) {
+            TriggerMatches x = Calls.with("a;b;c;h(b,a);h(a,c);h(a,b);h(x,y)>g(h(x,h(y,y)));");
+            x.sets(0, order);
+            due("round() by THE ORDER " + order, x.round(), 3);
+            long[] got = new long[3];
+            int n = 0;
+            for (int t = 6; t < x.told(4); t++) {
+                // h(y,y) comes ahead of h(x,h(y,y)), which is a PART of g
+                if (x.of(t, 0) == 5 && n < got.length) {
+                    int h = x.of(t, 1);
+                    got[n] = 10 * x.of(h, 1) + x.of(x.of(h, 2), 1);
+                    n++;
+                }
+            }
+            due("how many came by THE ORDER " + order, n, 3);
+            CHECK.due("x and y by THE ORDER " + order, got, want[order]);
+        }
+        TriggerMatches z = Calls.with("h(a,h(a,b));h(a,h(a,a));h(x,h(y,z))>f(z);");
+        due("round() by z at last", z.round(), 2);
+        due("f(a) ahead of f(b)", z.of(z.told(4) - 2, 1), 0);
+    }
+
     private static void orderOfSixRules() {
         CHECK.says("Terms", "THE ORDER: RULES 0 .. 5, from the last one back");
         // by each RULE one TERM comes, of another SIGN
@@ -581,6 +609,25 @@ public final class BoundsOfRoundsTest {
         due("still()", x.still(), 0);
         due("rounds(9) again: the rest", x.rounds(9), 3);
         due("still() then", x.still(), 1);
+        TriggerMatches y = Calls.with("a;b;a>c;b>d;");
+        due("one ROUND, though two FINDINGS changed anything by it", y.rounds(9), 1);
+    }
+
+    private static void roundsByOrderAndLimit() {
+        CHECK.says("Promise 14", "ROUNDS: by THE ORDER, none that are LATE");
+        TriggerMatches x = Calls.with("a;f(b);b>a;f(x)>g(x);");
+        due("rounds(1)", x.rounds(1), 1);
+        due("g(a), as RULE 0 goes first", x.of(3, 1), 0);
+        x.back();
+        x.sets(0, 2);
+        due("rounds(1) from the last RULE back", x.rounds(1), 1);
+        due("g(b)", x.of(3, 1), 1);
+        TriggerMatches y = Calls.with(ENDLESS);
+        for (int limit = 0; limit <= 5; limit++) {
+            y.sets(1, limit);
+            due("rounds(9) by LIMIT " + limit, y.rounds(9), limit == 0 ? 0 : 1);
+            due("LATE ones", y.last(1), 1);
+        }
     }
 
     private static void roundsUntilNothingChanges() {

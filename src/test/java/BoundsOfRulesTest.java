@@ -228,6 +228,10 @@ public final class BoundsOfRulesTest {
         due("one LETTER has one CLASS", y.rule(0, 3), 0);
         y.alike(0, 1);
         due("a and b alike", y.rule(0, 3), 1);
+        TriggerMatches z = Calls.with("h(a,b);h(b,a);h(x,x)>c;");
+        due("one LETTER has one CLASS, though each can stand in either place", z.rule(0, 3), 0);
+        TriggerMatches w = Calls.with("h(a,a);h(x,y)>c;");
+        CHECK.due("unlike LETTERS may have the same CLASS", Calls.finding(w, 0, 0), 0, 0, NONE, 1, 1);
     }
 
     private static final int[] FIVE = {0, 2, 4, 6, 8};

@@ -417,6 +417,10 @@ public final class BoundsOfTermsTest {
         CHECK.due("f(a)", Calls.of(x, 2), 4, 1, NONE, 0, 2);
         CHECK.due("h(b,f(a))", Calls.of(x, 3), 6, 0, 2, 0, 3);
         due("NONE is no refusal", x.told(0), 0);
+        x.alike(2, 1);
+        x.alike(1, 0);
+        CHECK.due("f(a): TERMS, not CLASSES of TERMS", Calls.of(x, 2), 4, 1, NONE, 0, 0);
+        CHECK.due("h(b,f(a)): TERMS, not CLASSES of TERMS", Calls.of(x, 3), 6, 0, 2, 0, 3);
     }
 
     /** By ROUNDS 1 .. 9 g^i(a), f(g^i(a)), h(f(g^i(a)),a) come, each of GENERATION i; the last one is the most. */

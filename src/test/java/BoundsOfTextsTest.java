@@ -597,5 +597,7 @@ public final class BoundsOfTextsTest {
         for (int i = 0; i < texts.length; i++) {
             CHECK.that(texts[i], Calls.written(x, terms[i]).equals(texts[i]));
         }
+        TriggerMatches y = Calls.with("a=b;c=d;h(b,f(d));");
+        CHECK.that("PARTS as they are, too", Calls.written(y, 5).equals("h(b,f(d))"));
     }
 }

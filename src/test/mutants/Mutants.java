@@ -11,13 +11,15 @@ import java.util.stream.Stream;
 
 /**
  * Breaks one sentence of the document after another in copies of the class, as mutants.txt tells, and looks whether
- * the tests of bounds see it. Run by hand, at the root of the project: java src/test/mutants/Mutants.java
+ * the tests of the promises see it. Run by hand, at the root of the project: java src/test/mutants/Mutants.java
  */
 public final class Mutants {
     private static final Path SOURCE = Path.of("src/main/java/TriggerMatches.java");
     private static final Path TESTS = Path.of("src/test/java");
     private static final Path LIST = Path.of("src/test/mutants/mutants.txt");
     private static final long SECONDS = 60;
+    /** Tests that do not name a sentence, or look at the source. */
+    private static final List<String> APART = List.of("RandomRunsTest", "LanguageTest", "RoomTest");
 
     private final Path room;
     private final String source;
@@ -75,7 +77,7 @@ public final class Mutants {
             all.sorted().forEach(path -> {
                 command.add(path.toString());
                 String name = path.getFileName().toString().replace(".java", "");
-                if (name.startsWith("BoundsOf")) {
+                if (name.endsWith("Test") && !APART.contains(name)) {
                     tests.add(name);
                 }
             });
