@@ -29,6 +29,7 @@ public final class BoundsOfStatesTest {
         refusedEach();
         toldBad();
         toldHowOften();
+        callsUpTo512();
         toldBytes();
         toldTermsAndRules();
         toldStates();
@@ -398,6 +399,32 @@ public final class BoundsOfStatesTest {
         x.anew();
         x.back();
         CHECK.due("all, behind anew() and back()", Calls.refusals(x), 5, 3, 2);
+    }
+
+    private static void callsUpTo512() {
+        CHECK.says("What it is", "An object is used for at most 512 calls: the last one is as good as the first");
+        TriggerMatches x = new TriggerMatches();
+        for (int call = 1; call <= 511; call++) {
+            x.of(0, 0);
+        }
+        due("told(0) as the 512th call", x.told(0), 511);
+        TriggerMatches y = new TriggerMatches();
+        for (int call = 1; call <= 511; call++) {
+            due("anew()", y.anew(), 0);
+        }
+        due("back() as the 512th call", y.back(), 7);
+        TriggerMatches z = Calls.with("f(a);f(x)>b;");
+        // 14 calls by now: a clear(), 12 bytes and reads()
+        for (int call = 15; call <= 511; call += 7) {
+            due("round()", z.round(), 1);
+            due("round() again", z.round(), 0);
+            due("still()", z.still(), 1);
+            due("told(4)", z.told(4), 3);
+            due("same(1, 2)", z.same(1, 2), 1);
+            due("back()", z.back(), 2);
+            due("back() again", z.back(), 1);
+        }
+        due("round() as the 512th call", z.round(), 1);
     }
 
     private static void toldBytes() {
